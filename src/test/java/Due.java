@@ -1,0 +1,65 @@
+/** Counts the answers that are not the ones that are due, and prints each of them. */
+final class Due {
+    /** A call of the class under test. */
+    interface Call {
+        void run();
+    }
+
+    private int looked = 0;
+    private int wrong = 0;
+
+    void is(String call, long got, long want) {
+        looked++;
+        if (got != want) {
+            tell(call + " answered " + got + ", due is " + want);
+        }
+    }
+
+    void is(String call, boolean got, boolean want) {
+        looked++;
+        if (got != want) {
+            tell(call + " answered " + got + ", due is " + want);
+        }
+    }
+
+    void is(String call, float got, float want) {
+        looked++;
+        if (Float.compare(got, want) != 0) {
+            tell(call + " answered " + got + ", due is " + want);
+        }
+    }
+
+    void is(String call, String got, String want) {
+        looked++;
+        if (!got.equals(want)) {
+            tell(call + " answered " + got + ", due is " + want);
+        }
+    }
+
+    /** A call must throw an exception of just this class. */
+    void refuses(String call, Class<? extends RuntimeException> want, Call run) {
+        looked++;
+        String got = "nothing";
+        try {
+            run.run();
+        } catch (RuntimeException thrown) {
+            got = thrown.getClass().getName();
+        }
+        if (!got.equals(want.getName())) {
+            tell(call + " throws " + got + ", due is " + want.getName());
+        }
+    }
+
+    private void tell(String what) {
+        wrong++;
+        System.out.println(what);
+    }
+
+    /** Ends the program with exit code 1 if an answer was wrong. */
+    void end(String name) {
+        System.out.println(name + ": " + looked + " answers looked at, " + wrong + " wrong");
+        if (wrong != 0) {
+            System.exit(1);
+        }
+    }
+}
