@@ -402,6 +402,7 @@ public final class Aclsmith {
         int destinations = blockBegins(rule.destinations.set);
         int protocols = blockBegins(rule.protocols);
         int before = 0;
+        // Where no block begins, the loop within ends before it starts.
         for (int source = 0; source < ADDRESSES; source++) {
             for (int destination = 0; holds(sources, source) && destination < ADDRESSES; destination++) {
                 for (int protocol = 0; holds(destinations, destination) && protocol < PROTOCOLS; protocol++) {

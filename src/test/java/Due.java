@@ -36,14 +36,16 @@ final class Due {
         }
     }
 
-    /** A call must throw an exception of just this class. */
+    /** A call must throw an exception of just this class, by a throw of its own and not by the machine or library. */
     void refuses(String call, Class<? extends RuntimeException> want, Call run) {
         looked++;
         String got = "nothing";
         try {
             run.run();
         } catch (RuntimeException thrown) {
-            got = thrown.getClass().getName();
+            StackTraceElement[] trace = thrown.getStackTrace();
+            boolean own = trace.length > 0 && trace[0].getClassName().startsWith("Aclsmith");
+            got = thrown.getClass().getName() + (own ? "" : " (not its own)");
         }
         if (!got.equals(want.getName())) {
             tell(call + " throws " + got + ", due is " + want.getName());
