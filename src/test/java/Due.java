@@ -5,6 +5,11 @@ final class Due {
         void run();
     }
 
+    /** A call that asks for a place. */
+    interface AtPlace {
+        void at(int place);
+    }
+
     private int looked = 0;
     private int wrong = 0;
 
@@ -49,6 +54,14 @@ final class Due {
         }
         if (!got.equals(want.getName())) {
             tell(call + " throws " + got + ", due is " + want.getName());
+        }
+    }
+
+    /** A call must refuse every place that a list of so many rules does not have. */
+    void refusesPlaces(String call, int rules, AtPlace run) {
+        int[] wrong = {-1, Integer.MIN_VALUE, rules, rules + 1, Integer.MAX_VALUE};
+        for (int place : wrong) {
+            refuses(call + "(" + place + ")", IndexOutOfBoundsException.class, () -> run.at(place));
         }
     }
 

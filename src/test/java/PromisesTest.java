@@ -11,11 +11,6 @@ public final class PromisesTest {
 
     private static final Due DUE = new Due();
 
-    /** A call that asks for a place. */
-    private interface AtPlace {
-        void at(int place);
-    }
-
     public static void main(String[] args) {
         newObject();
         add();
@@ -50,46 +45,6 @@ public final class PromisesTest {
         DUE.end("PromisesTest");
     }
 
-    /** A call must refuse every place that a list of so many rules does not have. */
-    private static void refusesPlaces(String call, int rules, AtPlace run) {
-        int[] wrong = {-1, LEAST, rules, rules + 1, GREATEST};
-        for (int place : wrong) {
-            DUE.refuses(call + "(" + place + ")", PLACE, () -> run.at(place));
-        }
-    }
-
-    private static void judgeTimes(Aclsmith smith, int source, int destination, int protocol, int times) {
-        for (int i = 0; i < times; i++) {
-            smith.judge(source, destination, protocol);
-        }
-    }
-
-    /** The least sources of all rules, in their order, as one word. */
-    private static String order(Aclsmith smith) {
-        StringBuilder words = new StringBuilder();
-        for (int place = 0; place < smith.rules(); place++) {
-            words.append(place == 0 ? "" : " ").append(smith.sources(place) / 100);
-        }
-        return words.toString();
-    }
-
-    /** A permit and a deny of 1024 packets each, 256 of them common. */
-    private static Aclsmith crossed() {
-        Aclsmith smith = new Aclsmith();
-        smith.add(0, 15, 0, 15, 15, true);
-        smith.add(8, 23, 8, 23, 15, false);
-        return smith;
-    }
-
-    /** Rules that match one source each, 0 to n - 1, and have no packet in common. */
-    private static Aclsmith single(int rules) {
-        Aclsmith smith = new Aclsmith();
-        for (int source = 0; source < rules; source++) {
-            smith.add(source, source, 0, 31, 15, source % 2 == 0);
-        }
-        return smith;
-    }
-
     // Promise 1
     private static void newObject() {
         Aclsmith smith = new Aclsmith();
@@ -100,7 +55,7 @@ public final class PromisesTest {
         DUE.is("1 allEntries", smith.allEntries(), 0);
         DUE.is("1 shorten", smith.shorten(), 0);
         DUE.is("1 sortByHits", smith.sortByHits(), 0);
-        Aclsmith other = crossed();
+        Aclsmith other = Lists.crossed();
         DUE.is("1 rules of another object", other.rules(), 2);
         DUE.is("1 rules", smith.rules(), 0);
     }
@@ -147,12 +102,12 @@ public final class PromisesTest {
 
     // Promise 3
     private static void remove() {
-        Aclsmith smith = crossed();
+        Aclsmith smith = Lists.crossed();
         smith.add(0, 31, 0, 31, 1, true);
         smith.judge(20, 20, 0);
         smith.judge(31, 31, 0);
         smith.judge(31, 31, 0);
-        refusesPlaces("3 remove", 3, smith::remove);
+        DUE.refusesPlaces("3 remove", 3, smith::remove);
         DUE.is("3 rules", smith.rules(), 3);
         // 192 packets of protocol 0 are denied no more, as the rule behind the deny permits them.
         DUE.is("3 remove a deny", smith.remove(1), 192);
@@ -162,7 +117,7 @@ public final class PromisesTest {
         DUE.is("3 remove a permit", smith.remove(0), 768);
         DUE.is("3 remove the last one", smith.remove(0), 1024);
         DUE.is("3 permitted", smith.permitted(), 0);
-        refusesPlaces("3 remove", 0, smith::remove);
+        DUE.refusesPlaces("3 remove", 0, smith::remove);
         smith.add(0, 31, 0, 31, 15, false);
         DUE.is("3 remove a deny that is denied anyway", smith.remove(0), 0);
         DUE.is("3 rules", smith.rules(), 0);
@@ -170,36 +125,36 @@ public final class PromisesTest {
 
     // Promise 4
     private static void move() {
-        Aclsmith smith = crossed();
+        Aclsmith smith = Lists.crossed();
         DUE.is("4 move forward", smith.move(1, 0), 256);
         DUE.is("4 permits", smith.permits(0), false);
         DUE.is("4 permitted", smith.permitted(), 768);
         DUE.is("4 move backward", smith.move(0, 1), 256);
         DUE.is("4 move to the same place", smith.move(1, 1), 0);
-        refusesPlaces("4 move from", 2, place -> smith.move(place, 0));
-        refusesPlaces("4 move to", 2, place -> smith.move(0, place));
+        DUE.refusesPlaces("4 move from", 2, place -> smith.move(place, 0));
+        DUE.refusesPlaces("4 move to", 2, place -> smith.move(0, place));
         DUE.is("4 permits", smith.permits(0), true);
-        Aclsmith five = single(5);
+        Aclsmith five = Lists.single(5);
         five.judge(3, 0, 0);
         DUE.is("4 move 3 to 1", five.move(3, 1), 0);
-        DUE.is("4 order", order(five), "0 3 1 2 4");
+        DUE.is("4 order", Lists.order(five), "0 3 1 2 4");
         DUE.is("4 hits go along", five.hits(1), 1);
         DUE.is("4 move 0 to 4", five.move(0, 4), 0);
-        DUE.is("4 order", order(five), "3 1 2 4 0");
+        DUE.is("4 order", Lists.order(five), "3 1 2 4 0");
         DUE.is("4 move 4 to 0", five.move(4, 0), 0);
-        DUE.is("4 order", order(five), "0 3 1 2 4");
+        DUE.is("4 order", Lists.order(five), "0 3 1 2 4");
     }
 
     // Promise 5
     private static void rules() {
-        Aclsmith smith = single(3);
+        Aclsmith smith = Lists.single(3);
         DUE.is("5 rules", smith.rules(), 3);
         smith.remove(1);
         DUE.is("5 rules after remove", smith.rules(), 2);
         smith.move(0, 1);
         smith.judge(0, 0, 0);
         DUE.is("5 rules after move and judge", smith.rules(), 2);
-        DUE.is("5 rules of a full list", single(16).rules(), 16);
+        DUE.is("5 rules of a full list", Lists.single(16).rules(), 16);
     }
 
     // Promises 6 and 7
@@ -214,10 +169,10 @@ public final class PromisesTest {
         DUE.is("7 destinations of the greatest", smith.destinations(0), 3131);
         DUE.is("7 destinations of the least", smith.destinations(1), 0);
         DUE.is("7 destinations between", smith.destinations(2), 529);
-        refusesPlaces("6 sources", 3, smith::sources);
-        refusesPlaces("7 destinations", 3, smith::destinations);
-        refusesPlaces("6 sources", 0, new Aclsmith()::sources);
-        refusesPlaces("7 destinations", 0, new Aclsmith()::destinations);
+        DUE.refusesPlaces("6 sources", 3, smith::sources);
+        DUE.refusesPlaces("7 destinations", 3, smith::destinations);
+        DUE.refusesPlaces("6 sources", 0, new Aclsmith()::sources);
+        DUE.refusesPlaces("7 destinations", 0, new Aclsmith()::destinations);
     }
 
     // Promises 8 and 9
@@ -230,8 +185,8 @@ public final class PromisesTest {
             DUE.is("8 protocols", smith.protocols(place), place + 1);
             DUE.is("9 permits", smith.permits(place), (place + 1) % 3 == 0);
         }
-        refusesPlaces("8 protocols", 15, smith::protocols);
-        refusesPlaces("9 permits", 15, smith::permits);
+        DUE.refusesPlaces("8 protocols", 15, smith::protocols);
+        DUE.refusesPlaces("9 permits", 15, smith::permits);
     }
 
     // Promise 10
@@ -262,7 +217,7 @@ public final class PromisesTest {
 
     // Promise 11
     private static void decider() {
-        Aclsmith smith = crossed();
+        Aclsmith smith = Lists.crossed();
         smith.add(8, 8, 8, 8, 15, true);
         DUE.is("11 decider first", smith.decider(0, 15, 3), 0);
         DUE.is("11 decider of common ones", smith.decider(8, 8, 0), 0);
@@ -285,16 +240,16 @@ public final class PromisesTest {
 
     // Promise 12
     private static void hits() {
-        Aclsmith smith = crossed();
-        judgeTimes(smith, 8, 8, 0, 3);
-        judgeTimes(smith, 20, 20, 3, 2);
-        judgeTimes(smith, 31, 31, 3, 1);
+        Aclsmith smith = Lists.crossed();
+        Lists.judgeTimes(smith, 8, 8, 0, 3);
+        Lists.judgeTimes(smith, 20, 20, 3, 2);
+        Lists.judgeTimes(smith, 31, 31, 3, 1);
         DUE.is("12 hits", smith.hits(0), 3);
         DUE.is("12 hits", smith.hits(1), 2);
-        refusesPlaces("12 hits", 2, smith::hits);
+        DUE.refusesPlaces("12 hits", 2, smith::hits);
         smith.move(0, 1);
         DUE.is("12 hits after move", smith.hits(0), 2);
-        judgeTimes(smith, 8, 8, 0, 1);
+        Lists.judgeTimes(smith, 8, 8, 0, 1);
         DUE.is("12 hits after move", smith.hits(0), 3);
         DUE.is("12 hits after move", smith.hits(1), 3);
         smith.remove(0);
@@ -344,14 +299,14 @@ public final class PromisesTest {
 
     // Promise 15
     private static void decides() {
-        Aclsmith smith = crossed();
+        Aclsmith smith = Lists.crossed();
         smith.add(0, 31, 0, 31, 5, true);
         smith.add(4, 4, 4, 4, 1, false);
         DUE.is("15 decides", smith.decides(0), 1024);
         DUE.is("15 decides", smith.decides(1), 768);
         DUE.is("15 decides", smith.decides(2), 2048 - 512 - 384);
         DUE.is("15 decides nothing", smith.decides(3), 0);
-        refusesPlaces("15 decides", 4, smith::decides);
+        DUE.refusesPlaces("15 decides", 4, smith::decides);
         smith.move(3, 0);
         DUE.is("15 decides one packet", smith.decides(0), 1);
         DUE.is("15 decides", smith.decides(1), 1023);
@@ -362,7 +317,7 @@ public final class PromisesTest {
 
     // Promise 16
     private static void overlap() {
-        Aclsmith smith = crossed();
+        Aclsmith smith = Lists.crossed();
         smith.add(15, 15, 8, 31, 9, false);
         smith.add(24, 31, 0, 31, 15, true);
         smith.add(0, 31, 0, 31, 6, true);
@@ -374,9 +329,9 @@ public final class PromisesTest {
         DUE.is("16 overlap of neighbours", smith.overlap(1, 3), 0);
         DUE.is("16 overlap far apart", smith.overlap(0, 3), 0);
         DUE.is("16 overlap without a common protocol", smith.overlap(2, 4), 0);
-        refusesPlaces("16 overlap one", 5, place -> smith.overlap(place, 0));
-        refusesPlaces("16 overlap other", 5, place -> smith.overlap(0, place));
-        refusesPlaces("16 overlap both", 5, place -> smith.overlap(place, place));
+        DUE.refusesPlaces("16 overlap one", 5, place -> smith.overlap(place, 0));
+        DUE.refusesPlaces("16 overlap other", 5, place -> smith.overlap(0, place));
+        DUE.refusesPlaces("16 overlap both", 5, place -> smith.overlap(place, place));
     }
 
     // Promise 17
@@ -392,7 +347,7 @@ public final class PromisesTest {
         DUE.is("17 isShadowed by two together", smith.isShadowed(2), true);
         DUE.is("17 isShadowed but for a packet", smith.isShadowed(3), false);
         DUE.is("17 isShadowed of one packet", smith.isShadowed(4), true);
-        refusesPlaces("17 isShadowed", 5, smith::isShadowed);
+        DUE.refusesPlaces("17 isShadowed", 5, smith::isShadowed);
         smith.move(2, 0);
         DUE.is("17 isShadowed after move", smith.isShadowed(0), false);
     }
@@ -419,8 +374,8 @@ public final class PromisesTest {
         for (int place : new int[] {6, 7, 8, 9, 10}) {
             DUE.refuses("18 shadowedBy, a bit too great", NONE, () -> smith.shadowedBy(place));
         }
-        refusesPlaces("18 shadowedBy", 11, smith::shadowedBy);
-        refusesPlaces("18 shadowedBy", 0, new Aclsmith()::shadowedBy);
+        DUE.refusesPlaces("18 shadowedBy", 11, smith::shadowedBy);
+        DUE.refusesPlaces("18 shadowedBy", 0, new Aclsmith()::shadowedBy);
     }
 
     // Promise 19
@@ -440,13 +395,13 @@ public final class PromisesTest {
         DUE.is("19 isRedundant, a deny ahead of nothing", smith.isRedundant(3), true);
         smith.add(31, 31, 7, 7, 8, true);
         DUE.is("19 isRedundant, a packet makes it needed", smith.isRedundant(3), false);
-        refusesPlaces("19 isRedundant", 5, smith::isRedundant);
+        DUE.refusesPlaces("19 isRedundant", 5, smith::isRedundant);
         DUE.is("19 nothing changes", smith.rules(), 5);
     }
 
     // Promise 20
     private static void permitted() {
-        Aclsmith smith = crossed();
+        Aclsmith smith = Lists.crossed();
         DUE.is("20 permitted", smith.permitted(), 1024);
         smith.add(0, 31, 0, 31, 1, true);
         DUE.is("20 permitted", smith.permitted(), 1024 + 1024 - 256 - 192);
@@ -492,11 +447,11 @@ public final class PromisesTest {
         DUE.is("21 canMerge sets with a gap", mergeable(base, new int[] {8, 11, 20, 23, 1, 1}), true);
         DUE.is("21 canMerge, set and range differ", mergeable(base, new int[] {12, 13, 20, 23, 7, 1}), false);
         DUE.is("21 canMerge, set and range differ", mergeable(base, new int[] {8, 11, 19, 23, 7, 1}), false);
-        Aclsmith smith = crossed();
+        Aclsmith smith = Lists.crossed();
         DUE.is("21 canMerge changes nothing", smith.canMerge(0), false);
         DUE.is("21 rules", smith.rules(), 2);
-        refusesPlaces("21 canMerge, none behind it", 1, smith::canMerge);
-        refusesPlaces("21 canMerge", 0, new Aclsmith()::canMerge);
+        DUE.refusesPlaces("21 canMerge, none behind it", 1, smith::canMerge);
+        DUE.refusesPlaces("21 canMerge", 0, new Aclsmith()::canMerge);
     }
 
     // Promise 22
@@ -504,17 +459,17 @@ public final class PromisesTest {
         Aclsmith twice = new Aclsmith();
         twice.add(0, 7, 0, 7, 15, true);
         twice.add(0, 7, 0, 7, 15, true);
-        judgeTimes(twice, 0, 0, 0, 3);
+        Lists.judgeTimes(twice, 0, 0, 0, 3);
         twice.move(0, 1);
-        judgeTimes(twice, 0, 0, 0, 2);
+        Lists.judgeTimes(twice, 0, 0, 0, 2);
         DUE.is("22 shorten two equal ones", twice.shorten(), 1);
         // The second one is taken away, not merged, and its 3 hits go with it.
         DUE.is("22 hits", twice.hits(0), 2);
         Aclsmith ahead = new Aclsmith();
         ahead.add(0, 7, 0, 7, 15, true);
         ahead.add(0, 15, 0, 7, 15, true);
-        judgeTimes(ahead, 0, 0, 0, 3);
-        judgeTimes(ahead, 15, 0, 0, 1);
+        Lists.judgeTimes(ahead, 0, 0, 0, 3);
+        Lists.judgeTimes(ahead, 15, 0, 0, 1);
         DUE.is("22 shorten, the first one redundant", ahead.shorten(), 1);
         DUE.is("22 sources", ahead.sources(0), 15);
         DUE.is("22 hits", ahead.hits(0), 1);
@@ -529,10 +484,10 @@ public final class PromisesTest {
         either.add(0, 15, 0, 7, 15, true);
         either.add(8, 31, 0, 7, 15, false);
         either.add(8, 8, 0, 7, 15, true);
-        judgeTimes(either, 1, 1, 1, 5);
+        Lists.judgeTimes(either, 1, 1, 1, 5);
         DUE.is("22 shorten", either.shorten(), 3);
         DUE.is("22 hits", either.hits(0), 5);
-        Aclsmith needed = crossed();
+        Aclsmith needed = Lists.crossed();
         needed.move(1, 0);
         DUE.is("22 shorten, nothing to do", needed.shorten(), 0);
         DUE.is("22 shorten, nothing to do", needed.rules(), 2);
@@ -543,9 +498,9 @@ public final class PromisesTest {
         three.add(8, 15, 0, 7, 3, true);
         three.add(0, 7, 0, 7, 3, true);
         three.add(16, 20, 0, 7, 3, true);
-        judgeTimes(three, 0, 0, 0, 2);
-        judgeTimes(three, 8, 0, 0, 1);
-        judgeTimes(three, 16, 0, 0, 4);
+        Lists.judgeTimes(three, 0, 0, 0, 2);
+        Lists.judgeTimes(three, 8, 0, 0, 1);
+        Lists.judgeTimes(three, 16, 0, 0, 4);
         DUE.is("22 shorten by merging", three.shorten(), 2);
         DUE.is("22 sources", three.sources(0), 20);
         DUE.is("22 destinations", three.destinations(0), 7);
@@ -580,26 +535,26 @@ public final class PromisesTest {
 
     // Promise 23
     private static void sortByHits() {
-        Aclsmith smith = single(4);
-        judgeTimes(smith, 1, 0, 0, 1);
-        judgeTimes(smith, 2, 0, 0, 2);
-        judgeTimes(smith, 3, 0, 0, 3);
+        Aclsmith smith = Lists.single(4);
+        Lists.judgeTimes(smith, 1, 0, 0, 1);
+        Lists.judgeTimes(smith, 2, 0, 0, 2);
+        Lists.judgeTimes(smith, 3, 0, 0, 3);
         DUE.is("23 sortByHits turns all round", smith.sortByHits(), 6);
-        DUE.is("23 order", order(smith), "3 2 1 0");
+        DUE.is("23 order", Lists.order(smith), "3 2 1 0");
         DUE.is("23 hits", smith.hits(0), 3);
         DUE.is("23 sortByHits again", smith.sortByHits(), 0);
-        Aclsmith equal = single(3);
-        judgeTimes(equal, 0, 0, 0, 1);
-        judgeTimes(equal, 1, 0, 0, 1);
+        Aclsmith equal = Lists.single(3);
+        Lists.judgeTimes(equal, 0, 0, 0, 1);
+        Lists.judgeTimes(equal, 1, 0, 0, 1);
         DUE.is("23 sortByHits with equal hits", equal.sortByHits(), 0);
-        DUE.is("23 order", order(equal), "0 1 2");
-        DUE.is("23 sortByHits of one rule", single(1).sortByHits(), 0);
-        Aclsmith full = single(16);
+        DUE.is("23 order", Lists.order(equal), "0 1 2");
+        DUE.is("23 sortByHits of one rule", Lists.single(1).sortByHits(), 0);
+        Aclsmith full = Lists.single(16);
         for (int source = 0; source < 16; source++) {
-            judgeTimes(full, source, 0, 0, source);
+            Lists.judgeTimes(full, source, 0, 0, source);
         }
         DUE.is("23 sortByHits of a full list", full.sortByHits(), 120);
-        DUE.is("23 order", order(full), "15 14 13 12 11 10 9 8 7 6 5 4 3 2 1 0");
+        DUE.is("23 order", Lists.order(full), "15 14 13 12 11 10 9 8 7 6 5 4 3 2 1 0");
     }
 
     private static void sortByHitsBlocked() {
@@ -607,27 +562,27 @@ public final class PromisesTest {
         smith.add(0, 9, 0, 31, 15, true);
         smith.add(5, 15, 0, 31, 15, false);
         smith.add(20, 21, 0, 31, 15, true);
-        judgeTimes(smith, 15, 0, 0, 1);
-        judgeTimes(smith, 20, 0, 0, 2);
+        Lists.judgeTimes(smith, 15, 0, 0, 1);
+        Lists.judgeTimes(smith, 20, 0, 0, 2);
         int permitted = smith.permitted();
         DUE.is("23 sortByHits past a deny", smith.sortByHits(), 2);
-        DUE.is("23 order", order(smith), "20 0 5");
+        DUE.is("23 order", Lists.order(smith), "20 0 5");
         DUE.is("23 permitted", smith.permitted(), permitted);
         Aclsmith same = new Aclsmith();
         same.add(0, 9, 0, 31, 15, false);
         same.add(5, 15, 0, 31, 15, false);
-        judgeTimes(same, 15, 0, 0, 1);
+        Lists.judgeTimes(same, 15, 0, 0, 1);
         DUE.is("23 sortByHits of one action", same.sortByHits(), 1);
-        DUE.is("23 order", order(same), "5 0");
+        DUE.is("23 order", Lists.order(same), "5 0");
         Aclsmith one = new Aclsmith();
         one.add(0, 9, 0, 9, 3, true);
         one.add(9, 15, 9, 15, 2, false);
-        judgeTimes(one, 15, 15, 1, 1);
+        Lists.judgeTimes(one, 15, 15, 1, 1);
         DUE.is("23 sortByHits with one common packet", one.sortByHits(), 0);
         Aclsmith none = new Aclsmith();
         none.add(0, 9, 0, 9, 3, true);
         none.add(9, 15, 9, 15, 12, false);
-        judgeTimes(none, 15, 15, 3, 1);
+        Lists.judgeTimes(none, 15, 15, 3, 1);
         DUE.is("23 sortByHits without a common protocol", none.sortByHits(), 1);
     }
 
@@ -649,9 +604,9 @@ public final class PromisesTest {
             DUE.is("24 entries of sources " + range[0] + " " + range[1], smith.entries(0), range[2]);
             DUE.is("24 entries of destinations " + range[0] + " " + range[1], smith.entries(1), range[2]);
             DUE.is("24 entries of all", smith.entries(2), 2 * range[2] * range[2]);
-            refusesPlaces("24 entries", 3, smith::entries);
+            DUE.refusesPlaces("24 entries", 3, smith::entries);
         }
-        refusesPlaces("24 entries", 0, new Aclsmith()::entries);
+        DUE.refusesPlaces("24 entries", 0, new Aclsmith()::entries);
     }
 
     private static Aclsmith split() {
@@ -679,7 +634,7 @@ public final class PromisesTest {
             DUE.refuses("25 entryValue " + wrong, PLACE, () -> smith.entryValue(1, wrong));
         }
         DUE.refuses("25 entryValue of all, 1", PLACE, () -> smith.entryValue(0, 1));
-        refusesPlaces("25 entryValue", 2, place -> smith.entryValue(place, 0));
+        DUE.refusesPlaces("25 entryValue", 2, place -> smith.entryValue(place, 0));
         Aclsmith most = new Aclsmith();
         most.add(1, 30, 1, 30, 9, true);
         DUE.is("25 entryValue, the last of 128", most.entryValue(0, 127), 128 * 30 + 4 * 30 + 3);
@@ -704,7 +659,7 @@ public final class PromisesTest {
             DUE.refuses("26 entryMask " + wrong, PLACE, () -> smith.entryMask(1, wrong));
         }
         DUE.refuses("26 entryMask of all, 1", PLACE, () -> smith.entryMask(0, 1));
-        refusesPlaces("26 entryMask", 2, place -> smith.entryMask(place, 0));
+        DUE.refusesPlaces("26 entryMask", 2, place -> smith.entryMask(place, 0));
         Aclsmith halves = new Aclsmith();
         halves.add(16, 31, 0, 15, 3, true);
         halves.add(31, 31, 31, 31, 8, true);
