@@ -669,7 +669,8 @@ public final class PromisesTest {
 
     /** Promises 24 to 26 together: each packet of a rule fits just one of its entries, and no other packet fits. */
     private static void entriesMatchAsRules() {
-        int[][] rules = {{0, 31, 0, 31, 15}, {1, 30, 2, 29, 6}, {3, 12, 5, 5, 13}, {7, 24, 9, 31, 7}, {31, 31, 0, 0, 8}};
+        int[][] rules = {{0, 31, 0, 31, 15}, {1, 30, 2, 29, 6}, {3, 12, 5, 5, 13},
+            {7, 24, 9, 31, 7}, {31, 31, 0, 0, 8}};
         for (int[] rule : rules) {
             Aclsmith smith = new Aclsmith();
             smith.add(rule[0], rule[1], rule[2], rule[3], rule[4], true);

@@ -90,7 +90,8 @@ public final class ShorterBoundaryTest {
 
     // Terms: 0 does not begin right behind 31
     private static void canMergeDoesNotWrapAround() {
-        DUE.is("21 canMerge sources 31 and 0", mergeable(new int[] {31, 31, 0, 0, 1}, new int[] {0, 0, 0, 0, 1}), false);
+        DUE.is("21 canMerge sources 31 and 0",
+                mergeable(new int[] {31, 31, 0, 0, 1}, new int[] {0, 0, 0, 0, 1}), false);
         DUE.is("21 canMerge sources 16 to 31 and 0 to 14",
                 mergeable(new int[] {16, 31, 0, 0, 1}, new int[] {0, 14, 0, 0, 1}), false);
         DUE.is("21 canMerge destinations 31 and 0",
@@ -286,8 +287,9 @@ public final class ShorterBoundaryTest {
         DUE.is("22 protocols", behind.protocols(1), 5);
     }
 
-    // Terms: "The merged rule has what is equal in both, both ranges .. together where they differ", each two that touch
+    // Terms: "The merged rule has what is equal in both, both ranges .. together where they differ"
     private static void shortenToEveryRange() {
+        // Each two ranges that overlap or touch.
         for (int from = 0; from <= 6; from++) {
             for (int to = from; to <= 6; to++) {
                 for (int otherFrom = 0; otherFrom <= to + 1; otherFrom++) {
