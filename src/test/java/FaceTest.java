@@ -1,14 +1,26 @@
+import java.io.IOException;
 import java.lang.reflect.Constructor;
 import java.lang.reflect.Field;
 import java.lang.reflect.Method;
 import java.lang.reflect.Modifier;
+import java.nio.file.Files;
+import java.nio.file.Path;
 import java.util.Arrays;
 import java.util.HashSet;
 import java.util.Set;
 import java.util.TreeSet;
 
-/** The class shows the public face of the document, and nothing else. */
+/** The class shows the public face of the document under its headings, and nothing else. */
 public final class FaceTest {
+    private static final Path SOURCE = Path.of("src/main/java/Aclsmith.java");
+    private static final String HEADING = "// ---- ";
+    /** Terms: "Ahead of the calls .. the interface says: ..", for each of the five headings. */
+    private static final String HEADED =
+        "rules. add remove move rules sources destinations protocols permits "
+        + "packets. judge decider hits misses averageLooks "
+        + "shadows. decides overlap isShadowed shadowedBy isRedundant permitted "
+        + "shorter lists. canMerge shorten sortByHits "
+        + "ternary entries. entries entryValue entryMask allEntries ";
     private static final String[] FACE = {
         "int add(int,int,int,int,int,boolean) throws IllegalArgumentException,IllegalStateException",
         "int remove(int) throws IndexOutOfBoundsException",
@@ -38,12 +50,13 @@ public final class FaceTest {
         "int allEntries()",
     };
 
-    public static void main(String[] args) {
+    public static void main(String[] args) throws IOException {
         Due due = new Due();
         int modifiers = Aclsmith.class.getModifiers();
         due.is("public final class", Modifier.isPublic(modifiers) && Modifier.isFinal(modifiers), true);
         due.is("constructors", constructors(), "public Aclsmith()");
         due.is("methods", shownMethods().toString(), new TreeSet<String>(Arrays.asList(FACE)).toString());
+        due.is("headings and the calls behind them", headed(), HEADED);
         due.is("private methods with a public name", namesTwice().toString(), "[]");
         for (Field field : Aclsmith.class.getDeclaredFields()) {
             due.is("private field " + field.getName(), Modifier.isPrivate(field.getModifiers()), true);
@@ -53,6 +66,23 @@ public final class FaceTest {
                     (inside.getModifiers() & (Modifier.PUBLIC | Modifier.PROTECTED)) != 0, false);
         }
         due.end("FaceTest");
+    }
+
+    /** The headings of the source and the public methods behind each, up to the last public one. */
+    private static String headed() throws IOException {
+        StringBuilder words = new StringBuilder();
+        String heading = "";
+        for (String line : Files.readAllLines(SOURCE)) {
+            String code = line.trim();
+            int bracket = code.indexOf('(');
+            if (code.startsWith(HEADING)) {
+                heading = code.substring(HEADING.length()) + " ";
+            } else if (code.startsWith("public ") && bracket > 0 && !code.startsWith("public Aclsmith(")) {
+                words.append(heading).append(code.substring(code.lastIndexOf(' ', bracket) + 1, bracket)).append(' ');
+                heading = "";
+            }
+        }
+        return words.toString();
     }
 
     private static String constructors() {

@@ -37,6 +37,22 @@ final class Lists {
         return smith;
     }
 
+    /** Rules of both actions, many of which overlap, touch or are equal in a part; each kind is a list of its own. */
+    static Aclsmith mixed(int kind, int rules) {
+        Aclsmith smith = new Aclsmith();
+        int mix = 977 * kind + 5;
+        for (int place = 0; place < rules; place++) {
+            mix = mix * 1103515245 + 12345 & Integer.MAX_VALUE;
+            int sourceFrom = mix / 256 % 7 * 3;
+            int sourceTo = sourceFrom + mix / 2048 % (4 + kind % 9);
+            int destinationFrom = mix / 65536 % (1 + kind % 3) * 8;
+            int destinationTo = destinationFrom + 7 + mix / 1024 % 2 * (kind % 4);
+            int protocols = kind % 2 == 0 ? 15 : 1 + mix / 8192 % 15;
+            smith.add(sourceFrom, sourceTo, destinationFrom, destinationTo, protocols, mix / 512 % 3 > 0);
+        }
+        return smith;
+    }
+
     /** Adds a rule that matches all packets. */
     static int addAll(Aclsmith smith, boolean permit) {
         return smith.add(0, 31, 0, 31, 15, permit);

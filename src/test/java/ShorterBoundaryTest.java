@@ -21,6 +21,7 @@ public final class ShorterBoundaryTest {
         shortenFromTheGreatestPlace();
         shortenRedundantBeforeMerging();
         shortenMergesTheFirstNeighbours();
+        shortenBeginsAgain();
         shortenToEveryRange();
         shortenToEverySet();
         shortenTakesTheHits();
@@ -287,6 +288,22 @@ public final class ShorterBoundaryTest {
         DUE.is("22 protocols", behind.protocols(1), 5);
     }
 
+    // Promise 22: "and it begins again", so the merged rule may next be merged with the one before it
+    private static void shortenBeginsAgain() {
+        Aclsmith smith = new Aclsmith();
+        smith.add(0, 7, 4, 7, 15, true);
+        smith.add(0, 3, 0, 3, 15, true);
+        smith.add(4, 7, 0, 3, 15, true);
+        smith.add(8, 11, 0, 3, 15, true);
+        DUE.is("22 canMerge the first two", smith.canMerge(0), false);
+        // The second and the third make one that fits the first and the last, and the first comes first.
+        DUE.is("22 shorten", smith.shorten(), 2);
+        DUE.is("22 sources", smith.sources(0), 7);
+        DUE.is("22 destinations", smith.destinations(0), 7);
+        DUE.is("22 sources of the last", smith.sources(1), 811);
+        DUE.is("22 destinations of the last", smith.destinations(1), 3);
+    }
+
     // Terms: "The merged rule has what is equal in both, both ranges .. together where they differ"
     private static void shortenToEveryRange() {
         // Each two ranges that overlap or touch.
@@ -364,12 +381,8 @@ public final class ShorterBoundaryTest {
 
     // Promise 22: "It ends when there is neither a redundant rule nor two neighbours that can be merged."
     private static void shortenEndsWithNothingLeft() {
-        for (int kind = 0; kind < 40; kind++) {
-            Aclsmith smith = new Aclsmith();
-            for (int place = 0; place < 16; place++) {
-                int mix = (place * 7 + kind * 5) % 11;
-                smith.add(mix, mix + kind % 6, place % 4, place % 4 + mix % 5, 1 + (mix + kind) % 15, mix % 3 > 0);
-            }
+        for (int kind = 0; kind < 60; kind++) {
+            Aclsmith smith = Lists.mixed(kind, 16);
             int permitted = smith.permitted();
             int shorter = smith.shorten();
             DUE.is("22 rules of kind " + kind, smith.rules(), 16 - shorter);
