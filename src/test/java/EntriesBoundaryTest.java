@@ -175,31 +175,45 @@ public final class EntriesBoundaryTest {
         return smith;
     }
 
-    // Promise 25: "no such entry", "0 for the first entry"
-    private static void valueWithoutSuchEntry() {
+    /** A question about an entry of a rule. */
+    private interface AtEntry {
+        int of(Aclsmith smith, int place, int entry);
+    }
+
+    private static void refusesEntries(String call, AtEntry run) {
         Aclsmith smith = fewAndMany();
         int[] counts = {1, 8, 128};
         for (int place = 0; place < counts.length; place++) {
             int at = place;
-            DUE.is("25 entryValue, the last entry", smith.entryValue(at, counts[at] - 1) >= 0, true);
-            DUE.refusesPlaces("25 entryValue, entry", counts[at], entry -> smith.entryValue(at, entry));
+            DUE.is(call + ", the last entry", run.of(smith, at, counts[at] - 1) >= 0, true);
+            DUE.refusesPlaces(call + ", entry", counts[at], entry -> run.of(smith, at, entry));
             for (int entry : Lists.farOut()) {
                 if (entry < 0 || entry > 128) {
-                    DUE.refuses("25 entryValue, entry " + entry, PLACE, () -> smith.entryValue(at, entry));
+                    DUE.refuses(call + ", entry " + entry, PLACE, () -> run.of(smith, at, entry));
                 }
             }
         }
     }
 
-    // Promise 25: "no such place", with an entry that others have and with none
-    private static void valueWithoutSuchPlace() {
-        DUE.refusesPlaces("25 entryValue of an empty list", 0, place -> new Aclsmith().entryValue(place, 0));
+    /** Refuses places, with an entry that other rules have and with one that none has. */
+    private static void refusesPlacesOfEntries(String call, AtEntry run, int valueAtTheLastPlace) {
+        DUE.refusesPlaces(call + " of an empty list", 0, place -> run.of(new Aclsmith(), place, 0));
         Aclsmith smith = fewAndMany();
         for (int entry : new int[] {0, 7, 127, 128, -1, Integer.MIN_VALUE, Integer.MAX_VALUE}) {
-            DUE.refusesPlaces("25 entryValue, entry " + entry, 3, place -> smith.entryValue(place, entry));
+            DUE.refusesPlaces(call + ", entry " + entry, 3, place -> run.of(smith, place, entry));
         }
-        DUE.refusesPlaces("25 entryValue of a full list", 16, place -> Lists.alike(16).entryValue(place, 0));
-        DUE.is("25 entryValue of the last place", Lists.single(16).entryValue(15, 0), 15 * 128);
+        DUE.refusesPlaces(call + " of a full list", 16, place -> run.of(Lists.alike(16), place, 0));
+        DUE.is(call + " of the last place", run.of(Lists.single(16), 15, 0), valueAtTheLastPlace);
+    }
+
+    // Promise 25: "no such entry", "0 for the first entry"
+    private static void valueWithoutSuchEntry() {
+        refusesEntries("25 entryValue", Aclsmith::entryValue);
+    }
+
+    // Promise 25: "no such place"
+    private static void valueWithoutSuchPlace() {
+        refusesPlacesOfEntries("25 entryValue", Aclsmith::entryValue, 15 * 128);
     }
 
     // Promise 26: "12 bits, .. which are 1 where a packet must have the same bit as the value", none to all of them
@@ -232,31 +246,14 @@ public final class EntriesBoundaryTest {
         }
     }
 
-    // Promise 26: "no such entry"
+    // Promise 26: "no such entry", "0 for the first entry"
     private static void maskWithoutSuchEntry() {
-        Aclsmith smith = fewAndMany();
-        int[] counts = {1, 8, 128};
-        for (int place = 0; place < counts.length; place++) {
-            int at = place;
-            DUE.is("26 entryMask, the last entry", smith.entryMask(at, counts[at] - 1) >= 0, true);
-            DUE.refusesPlaces("26 entryMask, entry", counts[at], entry -> smith.entryMask(at, entry));
-            for (int entry : Lists.farOut()) {
-                if (entry < 0 || entry > 128) {
-                    DUE.refuses("26 entryMask, entry " + entry, PLACE, () -> smith.entryMask(at, entry));
-                }
-            }
-        }
+        refusesEntries("26 entryMask", Aclsmith::entryMask);
     }
 
-    // Promise 26: "no such place", with an entry that others have and with none
+    // Promise 26: "no such place"
     private static void maskWithoutSuchPlace() {
-        DUE.refusesPlaces("26 entryMask of an empty list", 0, place -> new Aclsmith().entryMask(place, 0));
-        Aclsmith smith = fewAndMany();
-        for (int entry : new int[] {0, 7, 127, 128, -1, Integer.MIN_VALUE, Integer.MAX_VALUE}) {
-            DUE.refusesPlaces("26 entryMask, entry " + entry, 3, place -> smith.entryMask(place, entry));
-        }
-        DUE.refusesPlaces("26 entryMask of a full list", 16, place -> Lists.alike(16).entryMask(place, 0));
-        DUE.is("26 entryMask of the last place", Lists.single(16).entryMask(15, 0), 31 * 128);
+        refusesPlacesOfEntries("26 entryMask", Aclsmith::entryMask, 31 * 128);
     }
 
     /** How many of the 32 numbers of a part of the packets fit an entry of the only rule, each counted. */
